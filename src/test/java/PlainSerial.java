@@ -528,41 +528,6 @@ final class PlainSerial {
         return hash(v, readShare(), buffer);
     }
 
-    /** The hash from the answers of the object itself. */
-    static long digestOf(SerialRecaps x, String buffer) {
-        List<Long> v = new ArrayList<>();
-        for (int i = 0; i <= 6; i++) {
-            v.add((long) x.count(i));
-        }
-        v.add((long) x.setting(0));
-        v.add((long) x.setting(1));
-        int parts = x.count(0);
-        for (int p = 0; p < parts; p++) {
-            for (int i = 0; i <= 6; i++) {
-                v.add((long) x.part(p, i));
-            }
-        }
-        for (int r = 0; r < 6; r++) {
-            for (int p = 0; p < parts; p++) {
-                v.add((long) x.knows(r, p));
-            }
-            for (int i = 0; i <= 6; i++) {
-                v.add((long) x.reader(r, i));
-            }
-            v.add((long) x.easiest(r));
-            v.add((long) x.enough(r));
-            for (int i = 0; i <= 4 && parts > 0; i++) {
-                v.add((long) x.recap(r, parts - 1, i));
-            }
-        }
-        for (int p = 0; p < 6; p++) {
-            for (int i = 0; i <= 3; i++) {
-                v.add((long) x.plot(p, i));
-            }
-        }
-        return hash(v, x.readShare(), buffer);
-    }
-
     private static long hash(List<Long> values, double share, String buffer) {
         values.add(Double.doubleToLongBits(share));
         values.add((long) buffer.length());
