@@ -10,6 +10,7 @@ final class PartsTest {
         adds();
         addsWrongly();
         changes();
+        changesInFullStory();
         changesWrongly();
         removes();
         numberComesAgainUnknown();
@@ -99,6 +100,14 @@ final class PartsTest {
         Checks.due("3: needs again", 6, x.part(3, 3));
         Checks.due("3: change(0, ..)", 1, x.change(0, 63, 5));
         Checks.due("3: needs first", 1, x.part(1, 3));
+    }
+
+    private static void changesInFullStory() {
+        SerialRecaps x = Checks.told("0;0;0;0;0;0;0;0;0;0;0;0;0;0;0;0;0;0;0;0");
+        Checks.due("3: the first of 20", 1, x.change(0, 2, 1));
+        Checks.due("3: the next needs none", 0, x.part(1, 3));
+        Checks.due("3: the last of 20", 1, x.change(19, 3, 1));
+        Checks.due("3: the last needs the first too", (1 << 18) + 1, x.part(19, 3));
     }
 
     private static void changesWrongly() {
