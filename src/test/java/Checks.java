@@ -28,24 +28,8 @@ final class Checks {
         }
     }
 
-    /** The call throws exactly this, and changes nothing. */
-    static void refused(SerialRecaps x, Class<? extends RuntimeException> kind, String what, Call call) {
-        long before = x.digest();
-        due(what, kind.getName(), outcome(call));
-        due(what + " leaves the state", before, x.digest());
-    }
-
-    static void type(SerialRecaps x, String text) {
-        for (int i = 0; i < text.length(); i++) {
-            x.append(text.charAt(i));
-        }
-    }
-
-    static SerialRecaps told(String text) {
-        SerialRecaps x = new SerialRecaps();
-        type(x, text);
-        x.addAll();
-        return x;
+    static int failures() {
+        return failed;
     }
 
     static void end() {

@@ -1,10 +1,12 @@
 /** Long runs of calls, right ones and wrong ones, each compared with PlainSerial; and short texts, all there are. */
 final class RunsTest {
-    private static final int RUNS = 120;
+    private static final int RUNS = 400;
+    /** What an object answers after so many calls is free. */
     private static final int CALLS = 512;
     private static final String SIGNS = "01569!w;a";
 
     private long seed;
+    private int calls;
     private final SerialRecaps x = new SerialRecaps();
     private final PlainSerial y = new PlainSerial();
 
@@ -58,16 +60,19 @@ final class RunsTest {
     private void run(int run) {
         // Some runs build up many parts, others remove, type or undo more.
         int taste = run % 4;
-        for (int call = 0; call < CALLS; call++) {
-            String name = "run " + run + ", call " + call + ": " + step(below(23), taste);
-            if (call % 5 == 0) {
-                Checks.due(name + "; digest()", y.digest(), x.digest());
+        for (int step = 0; calls < CALLS; step++) {
+            String name = "run " + run + ", before call " + calls + ": " + step(below(23), taste);
+            if (step % 3 == 0) {
+                same(name + "; digest()", y::digest, x::digest);
             }
         }
     }
 
     private void same(String call, Checks.Call due, Checks.Call got) {
-        Checks.due(call, Checks.outcome(due), Checks.outcome(got));
+        if (calls < CALLS) {
+            calls++;
+            Checks.due(call, Checks.outcome(due), Checks.outcome(got));
+        }
     }
 
     private String step(int kind, int taste) {
@@ -210,7 +215,7 @@ final class RunsTest {
 
     private static void texts(String text) {
         SerialRecaps x = new SerialRecaps();
-        Checks.type(x, text);
+        Scenes.type(x, text);
         Checks.due("12: firstError of " + text, PlainSerial.errorOf(text), x.firstError());
         Object due = PlainSerial.isWhole(text) ? (Object) text.split(";").length : IllegalArgumentException.class.getName();
         Checks.due("13: addAll of " + text, due, Checks.outcome(x::addAll));
