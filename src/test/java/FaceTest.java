@@ -9,6 +9,8 @@ import java.nio.file.Path;
 import java.util.Arrays;
 import java.util.Set;
 import java.util.TreeSet;
+import java.util.regex.Matcher;
+import java.util.regex.Pattern;
 
 /** The face of the document, and those rules of LANGUAGE.md that a look at the class or its text can tell. */
 final class FaceTest {
@@ -41,12 +43,24 @@ final class FaceTest {
         "getMessage", "Double", "Float", "Object", "Exact", "static {", "+ \"", "\" +"};
     private static final Set<Class<?>> CONSTANTS = Set.of(int.class, long.class, boolean.class, char.class,
         String.class);
+    /** The classes of the library that rules 3, 4 and 6 list, but for interfaces. */
+    private static final Set<String> LIBRARY = Set.of("Integer", "Long", "Math", "System", "String", "StringBuilder",
+        "Arrays", "ArrayList", "List", "IllegalStateException", "IllegalArgumentException",
+        "IndexOutOfBoundsException", "ArithmeticException", "UnsupportedOperationException",
+        "NoSuchElementException", "RuntimeException");
+    private static final Pattern CLASS_NAME = Pattern.compile("\\b[A-Z]\\w*[a-z]\\w*");
+    private static final Pattern OF_SYSTEM = Pattern.compile("\\bSystem\\.(\\w+)");
+    private static final Pattern THROW = Pattern.compile("\\bthrow\\b([^;]*);");
+    private static final String WRITTEN = " new \\w+Exception\\((\"\")?\\)";
     private static final int MOST_LINES = 60;
+    private static final int MOST_PARAMETERS = 7;
 
     public static void main(String[] args) throws IOException {
         face();
         inside();
-        text(Files.readString(Path.of("src/main/java/SerialRecaps.java"), StandardCharsets.ISO_8859_1));
+        String text = Files.readString(Path.of("src/main/java/SerialRecaps.java"), StandardCharsets.ISO_8859_1);
+        text(text);
+        library(bare(text).replaceAll("\"[^\"]*\"", "\"\""));
         Checks.end();
     }
 
@@ -90,10 +104,18 @@ final class FaceTest {
         Class<?>[] inner = SerialRecaps.class.getDeclaredClasses();
         Checks.due("rule 11: some twelve classes", true, inner.length < 12);
         fields(SerialRecaps.class);
+        parameters(SerialRecaps.class);
         for (Class<?> c : inner) {
+            parameters(c);
             boolean hidden = (c.getModifiers() & (Modifier.PUBLIC | Modifier.PROTECTED)) == 0;
             Checks.due("rule 1: " + c + " is hidden and static", true, hidden && Modifier.isStatic(c.getModifiers()));
             fields(c);
+        }
+    }
+
+    private static void parameters(Class<?> c) {
+        for (Method m : c.getDeclaredMethods()) {
+            Checks.due("rule 11: the parameters of " + m, true, m.getParameterCount() <= MOST_PARAMETERS);
         }
     }
 
@@ -129,6 +151,27 @@ final class FaceTest {
             }
             boolean method = lines[i].equals("    }") || lines[i].equals("        }");
             Checks.due("rule 11: long at line " + (i + 1), false, method && i - began > MOST_LINES);
+        }
+    }
+
+    /** Of the text without comments and without what its written texts say. */
+    private static void library(String text) {
+        Set<String> own = new TreeSet<>(Set.of("SerialRecaps"));
+        for (Class<?> c : SerialRecaps.class.getDeclaredClasses()) {
+            own.add(c.getSimpleName());
+        }
+        Matcher name = CLASS_NAME.matcher(text);
+        while (name.find()) {
+            boolean listed = own.contains(name.group()) || LIBRARY.contains(name.group());
+            Checks.due("rule 4: " + name.group() + " is listed", true, listed);
+        }
+        Matcher system = OF_SYSTEM.matcher(text);
+        while (system.find()) {
+            Checks.due("rule 4: of System", "arraycopy", system.group(1));
+        }
+        Matcher thrown = THROW.matcher(text);
+        while (thrown.find()) {
+            Checks.due("rule 6: throw" + thrown.group(1), true, thrown.group(1).matches(WRITTEN));
         }
     }
 
